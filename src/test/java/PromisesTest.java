@@ -238,7 +238,7 @@ public final class PromisesTest {
 
     private void trainBySilentCoins() {
         CoinRows x = heavy();
-        x.train();
+        due.same("7: train all", x.train(), 5 + 4 * 5 + 4 + 4 * 2);
         due.same("7: begin loud", x.weight(BEGIN, 2, 0), 0);
         due.same("7: begin 4", x.weight(BEGIN, 4, 0), 3);
         due.same("7: begin 5", x.weight(BEGIN, 5, 0), 1);
@@ -248,6 +248,9 @@ public final class PromisesTest {
         due.same("7: 5 to 4", x.weight(STEP, 5, 4), 0);
         due.same("7: a, told twice", x.weight(LETTER, 0, 0), 3);
         due.same("7: c, told once", x.weight(LETTER, 0, 2), 2);
+        due.same("7: b by the coin 1", x.weight(LETTER, 1, 1), 3);
+        due.same("7: d by the coin 3", x.weight(LETTER, 3, 3), 2);
+        due.same("7: 3 to 5", x.weight(STEP, 3, 5), 1);
     }
 
     private void put() {
@@ -592,6 +595,7 @@ public final class PromisesTest {
         due.same("20: 2", x.likelyAt(2), NO_SUCH);
         due.same("20: -1", x.likelyAt(-1), NO_SUCH);
         due.same("20: MIN", x.likelyAt(MIN), NO_SUCH);
+        due.same("20: silent coins tell no letter", heavy().likelyAt(2), 0);
         due.same("20: empty", new CoinRows().likelyAt(0), NO_SUCH);
         due.same("20: none", Due.loaded(DEAD).likelyAt(1), NOT_POSSIBLE);
         due.same("20: none at no place", Due.loaded(DEAD).likelyAt(2), NO_SUCH);
@@ -748,6 +752,12 @@ public final class PromisesTest {
         due.same("26: the state stays", x.count(0), 2);
         due.same("26: the letter that was dropped", x.add(3) + x.letter(2), 6);
         due.same("26: undo of it", x.undo(), 0);
+        x.cut();
+        x.add(2);
+        x.undo();
+        due.same("26: undo add", x.count(0), 1);
+        x.undo();
+        due.same("26: the letter before it", x.letter(1), 1);
         Due.putText(x, "@0");
         x.save(0);
         x.add(1);
@@ -831,6 +841,10 @@ public final class PromisesTest {
         due.same("28: undone", x.undo(), 5);
         due.same("28: the row before", x.count(0), 3);
         due.same("28: the weight before", x.weight(LETTER, 0, 0), 2);
+        Due.putText(x, "1;!dd");
+        x.load();
+        x.restore(1);
+        due.same("28: the letters", x.letter(0) * 10 + x.letter(1), 1);
     }
 
     /** All weights 3 and six letters: the greatest numbers that there are. */
