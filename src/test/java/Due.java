@@ -1,3 +1,9 @@
+import java.lang.reflect.InvocationTargetException;
+import java.lang.reflect.Method;
+import java.lang.reflect.Modifier;
+import java.util.Arrays;
+import java.util.Comparator;
+
 /** Counts answers that are not due, for all tests of the project. */
 final class Due {
     private static final int SHOWN = 30;
@@ -12,6 +18,28 @@ final class Due {
         wrong++;
         if (wrong <= SHOWN) {
             System.out.println(call + " answered " + got + ", due is " + want);
+        }
+    }
+
+    void same(String call, String got, String want) {
+        same(got.equals(want) ? call : call + ": " + got + "\n    instead of " + want + "\n   ", got.equals(want) ? 0 : 1, 0);
+    }
+
+    /** Runs each method of a test that takes nothing, so that none is forgotten in a list. */
+    void runAll(Object test) {
+        Method[] methods = test.getClass().getDeclaredMethods();
+        Arrays.sort(methods, Comparator.comparing(Method::getName));
+        for (Method method : methods) {
+            if (method.getParameterCount() > 0 || Modifier.isStatic(method.getModifiers())) {
+                continue;
+            }
+            int before = asked;
+            try {
+                method.invoke(test);
+            } catch (InvocationTargetException | IllegalAccessException e) {
+                same(method.getName() + " threw " + e.getCause(), 1, 0);
+            }
+            same("a test asks something: " + method.getName(), asked > before ? 1 : 0, 1);
         }
     }
 

@@ -12,13 +12,6 @@ public final class PromisesTest {
     private static final int MIN = Integer.MIN_VALUE;
     private static final int MAX = Integer.MAX_VALUE;
 
-    /** Two loud coins, whose four ways of "ab" weigh 2, 2, 36 and 6. */
-    private static final String[] PAIR = {"@12;0>01;0>12;1>03;1>11;0=b2;1=a3;1=b1", "!ab"};
-    /** One loud coin and both silent ones; the six ways of "ad" weigh 1, 2, 12, 2, 4 and 24. */
-    private static final String[] SILENT = {"@51;0>42;4>01;4>53;5>02;!ad"};
-    /** The coin 0 tells no a, and the row begins with one: there is no way. */
-    private static final String[] DEAD = {"0=a0;!ab"};
-
     private final Due due = new Due();
 
     public static void main(String[] args) {
@@ -56,21 +49,6 @@ public final class PromisesTest {
         test.restore();
         test.greatestNumbers();
         test.due.end("PromisesTest");
-    }
-
-    private static CoinRows heavy() {
-        CoinRows rows = new CoinRows();
-        for (int coin = 0; coin < 6; coin++) {
-            rows.give(BEGIN, coin, 0, 3);
-            for (int to = 0; to < 6; to++) {
-                rows.give(STEP, coin, to, 3);
-                rows.give(LETTER, coin, to, 3);
-            }
-        }
-        for (int i = 0; i < 6; i++) {
-            rows.add(i % 4);
-        }
-        return rows;
     }
 
     private void aNewObject() {
@@ -133,7 +111,7 @@ public final class PromisesTest {
     }
 
     private void weight() {
-        CoinRows x = Due.loaded(PAIR);
+        CoinRows x = Due.loaded(Examples.PAIR);
         due.same("3: begin", x.weight(BEGIN, 1, 0), 2);
         due.same("3: step", x.weight(STEP, 0, 1), 2);
         due.same("3: step the other way", x.weight(STEP, 1, 0), 3);
@@ -209,7 +187,7 @@ public final class PromisesTest {
     }
 
     private void train() {
-        CoinRows x = Due.loaded(PAIR);
+        CoinRows x = Due.loaded(Examples.PAIR);
         due.same("7: train", x.train(), 8);
         due.same("7: recorded", x.count(3), 3);
         int[][] then = {{BEGIN, 0, 0, 0}, {BEGIN, 1, 0, 3}, {STEP, 0, 0, 3}, {STEP, 0, 1, 3}, {STEP, 1, 0, 3}, {STEP, 1, 1, 1},
@@ -220,7 +198,7 @@ public final class PromisesTest {
         }
         due.same("7: row stays", x.count(0), 2);
         due.same("7: train of none", new CoinRows().train(), NOT_POSSIBLE);
-        x = Due.loaded(DEAD);
+        x = Due.loaded(Examples.DEAD);
         due.same("7: train without ways", x.train(), NOT_POSSIBLE);
         due.same("7: not recorded", x.count(3), 1);
         // nothing is told of the coin 2, so its groups stay; the coin 0 makes no step for one letter
@@ -237,7 +215,7 @@ public final class PromisesTest {
     }
 
     private void trainBySilentCoins() {
-        CoinRows x = heavy();
+        CoinRows x = Examples.heavy();
         due.same("7: train all", x.train(), 5 + 4 * 5 + 4 + 4 * 2);
         due.same("7: begin loud", x.weight(BEGIN, 2, 0), 0);
         due.same("7: begin 4", x.weight(BEGIN, 4, 0), 3);
@@ -418,9 +396,9 @@ public final class PromisesTest {
     private void total() {
         due.same("12: empty", new CoinRows().total(), 1);
         due.same("12: empty without begin", Due.loaded("@00").total(), 1);
-        due.same("12: pair", Due.loaded(PAIR).total(), 46);
-        due.same("12: silent", Due.loaded(SILENT).total(), 45);
-        due.same("12: none", Due.loaded(DEAD).total(), 0);
+        due.same("12: pair", Due.loaded(Examples.PAIR).total(), 46);
+        due.same("12: silent", Due.loaded(Examples.SILENT).total(), 45);
+        due.same("12: none", Due.loaded(Examples.DEAD).total(), 0);
         CoinRows x = Due.loaded("@42;@53;4>03;4>53;5>02;@00", "!a");
         due.same("12: begins that are silent", x.total(), 6 + 12 + 6);
         x.add(0);
@@ -431,7 +409,7 @@ public final class PromisesTest {
     }
 
     private void forward() {
-        CoinRows x = Due.loaded(PAIR);
+        CoinRows x = Due.loaded(Examples.PAIR);
         due.same("13: 0 0", x.forward(0, 0), 1);
         due.same("13: 0 1", x.forward(0, 1), 6);
         due.same("13: 1 0", x.forward(1, 0), 38);
@@ -443,8 +421,8 @@ public final class PromisesTest {
         due.same("13: coin -1", x.forward(0, -1), NO_SUCH);
         due.same("13: extreme", x.forward(MAX, MIN), NO_SUCH);
         due.same("13: empty", new CoinRows().forward(0, 0), NO_SUCH);
-        due.same("13: silent 0", Due.loaded(SILENT).forward(0, 0), 3);
-        due.same("13: silent 1", Due.loaded(SILENT).forward(1, 0), 45);
+        due.same("13: silent 0", Due.loaded(Examples.SILENT).forward(0, 0), 3);
+        due.same("13: silent 1", Due.loaded(Examples.SILENT).forward(1, 0), 45);
         x = Due.loaded("0=b0;@13;1=a2;!ab");
         due.same("13: cannot be gone on with", x.forward(0, 1), 6);
         due.same("13: nor this", x.forward(0, 0), 1);
@@ -452,7 +430,7 @@ public final class PromisesTest {
     }
 
     private void backward() {
-        CoinRows x = Due.loaded(PAIR);
+        CoinRows x = Due.loaded(Examples.PAIR);
         due.same("14: 0 0", x.backward(0, 0), 4);
         due.same("14: 0 1", x.backward(0, 1), 7);
         due.same("14: 0 2", x.backward(0, 2), 0);
@@ -464,7 +442,7 @@ public final class PromisesTest {
         due.same("14: coin -1", x.backward(0, -1), NO_SUCH);
         due.same("14: extreme", x.backward(MIN, MAX), NO_SUCH);
         due.same("14: empty", new CoinRows().backward(0, 0), NO_SUCH);
-        due.same("14: silent", Due.loaded(SILENT).backward(0, 0), 15);
+        due.same("14: silent", Due.loaded(Examples.SILENT).backward(0, 0), 15);
         x = Due.loaded("3>02;3>43;4>01;0=a0;!ab");
         due.same("14: cannot be come to", x.backward(0, 3), 5);
         due.same("14: tells no such letter", x.backward(0, 0), 1);
@@ -472,14 +450,14 @@ public final class PromisesTest {
 
     private void ways() {
         due.same("15: empty", new CoinRows().ways(), 1);
-        due.same("15: pair", Due.loaded(PAIR).ways(), 4);
-        due.same("15: silent", Due.loaded(SILENT).ways(), 6);
-        due.same("15: none", Due.loaded(DEAD).ways(), 0);
-        due.same("15: one weighs 0", Due.loaded(PAIR[0] + ";1=b0", PAIR[1]).ways(), 2);
+        due.same("15: pair", Due.loaded(Examples.PAIR).ways(), 4);
+        due.same("15: silent", Due.loaded(Examples.SILENT).ways(), 6);
+        due.same("15: none", Due.loaded(Examples.DEAD).ways(), 0);
+        due.same("15: one weighs 0", Due.loaded(Examples.PAIR[0] + ";1=b0", Examples.PAIR[1]).ways(), 2);
     }
 
     private void way() {
-        CoinRows x = Due.loaded(PAIR);
+        CoinRows x = Due.loaded(Examples.PAIR);
         int[][] ways = {{0, 0}, {0, 1}, {1, 0}, {1, 1}};
         checkWays("16: pair", x, ways);
         due.same("16: what -2", x.way(0, -2), BAD_VALUE);
@@ -488,12 +466,12 @@ public final class PromisesTest {
         due.same("16: way -1", x.way(-1, 0), NO_SUCH);
         due.same("16: way MIN", x.way(MIN, -9), NO_SUCH);
         due.same("16: way MAX", x.way(MAX, 0), NO_SUCH);
-        x = Due.loaded(SILENT);
+        x = Due.loaded(Examples.SILENT);
         int[][] silent = {{0, 0}, {0, 4, 0}, {0, 4, 5, 0}, {5, 0, 0}, {5, 0, 4, 0}, {5, 0, 4, 5, 0}};
         checkWays("16: silent", x, silent);
         checkWays("16: empty", new CoinRows(), new int[][] {{}});
-        checkWays("16: none", Due.loaded(DEAD), new int[][] {});
-        due.same("16: not a way of none", Due.loaded(DEAD).way(0, -2), NO_SUCH);
+        checkWays("16: none", Due.loaded(Examples.DEAD), new int[][] {});
+        due.same("16: not a way of none", Due.loaded(Examples.DEAD).way(0, -2), NO_SUCH);
         due.same("16: bad what of the empty way", new CoinRows().way(0, -2), BAD_VALUE);
     }
 
@@ -511,12 +489,12 @@ public final class PromisesTest {
     }
 
     private void weighs() {
-        CoinRows x = Due.loaded(PAIR);
+        CoinRows x = Due.loaded(Examples.PAIR);
         long[] pair = {2, 2, 36, 6};
         for (int i = 0; i < pair.length; i++) {
             due.same("17: pair " + i, x.weighs(i), pair[i]);
         }
-        x = Due.loaded(SILENT);
+        x = Due.loaded(Examples.SILENT);
         long[] silent = {1, 2, 12, 2, 4, 24};
         for (int i = 0; i < silent.length; i++) {
             due.same("17: silent " + i, x.weighs(i), silent[i]);
@@ -527,11 +505,11 @@ public final class PromisesTest {
         due.same("17: MIN", x.weighs(MIN), NO_SUCH);
         due.same("17: empty", new CoinRows().weighs(0), 1);
         due.same("17: empty 1", new CoinRows().weighs(1), NO_SUCH);
-        due.same("17: none", Due.loaded(DEAD).weighs(0), NO_SUCH);
+        due.same("17: none", Due.loaded(Examples.DEAD).weighs(0), NO_SUCH);
     }
 
     private void likeliest() {
-        CoinRows x = Due.loaded(PAIR);
+        CoinRows x = Due.loaded(Examples.PAIR);
         due.same("18: number", x.likeliest(-2), 2);
         due.same("18: size", x.likeliest(-1), 2);
         due.same("18: coin 0", x.likeliest(0), 1);
@@ -540,7 +518,7 @@ public final class PromisesTest {
         due.same("18: MAX", x.likeliest(MAX), NONE);
         due.same("18: -3", x.likeliest(-3), BAD_VALUE);
         due.same("18: MIN", x.likeliest(MIN), BAD_VALUE);
-        x = Due.loaded(DEAD);
+        x = Due.loaded(Examples.DEAD);
         due.same("18: none", x.likeliest(-2), NOT_POSSIBLE);
         due.same("18: none 5", x.likeliest(5), NOT_POSSIBLE);
         due.same("18: none -3", x.likeliest(-3), BAD_VALUE);
@@ -548,7 +526,7 @@ public final class PromisesTest {
         due.same("18: empty number", x.likeliest(-2), 0);
         due.same("18: empty size", x.likeliest(-1), 0);
         due.same("18: empty coin", x.likeliest(0), NONE);
-        due.same("18: silent", Due.loaded(SILENT).likeliest(-2), 5);
+        due.same("18: silent", Due.loaded(Examples.SILENT).likeliest(-2), 5);
         x = Due.loaded("0=a3;@11;1=a2;2=a3;@21;@31;3=a3;!a");
         due.same("18: the first of several", x.likeliest(-2), 0);
         x = Due.loaded("@00;@11;@41;4>13;1=b3;1=a1;1>13;1>01;0>03;0=b3;!ab");
@@ -564,7 +542,7 @@ public final class PromisesTest {
     }
 
     private void odds() {
-        CoinRows x = Due.loaded(PAIR);
+        CoinRows x = Due.loaded(Examples.PAIR);
         long[][] want = {{2, 23}, {21, 23}, {0, 1}, {0, 1}, {19, 23}, {4, 23}, {0, 1}, {0, 1}};
         for (int place = 0; place < 2; place++) {
             for (int coin = 0; coin < 4; coin++) {
@@ -580,25 +558,25 @@ public final class PromisesTest {
         due.same("19: part -1", x.odds(0, 0, -1), BAD_VALUE);
         due.same("19: extreme", x.odds(MIN, MAX, MAX), NO_SUCH);
         due.same("19: empty", new CoinRows().odds(0, 0, 0), NO_SUCH);
-        x = Due.loaded(DEAD);
+        x = Due.loaded(Examples.DEAD);
         due.same("19: none", x.odds(0, 0, 0), NOT_POSSIBLE);
         due.same("19: none by a bad part", x.odds(0, 0, 2), BAD_VALUE);
         due.same("19: none at no place", x.odds(2, 0, 0), NO_SUCH);
-        x = Due.loaded(SILENT);
+        x = Due.loaded(Examples.SILENT);
         fraction("19: sure", x.odds(1, 0, 0), x.odds(1, 0, 1), 1, 1);
     }
 
     private void likelyAt() {
-        CoinRows x = Due.loaded(PAIR);
+        CoinRows x = Due.loaded(Examples.PAIR);
         due.same("20: 0", x.likelyAt(0), 1);
         due.same("20: 1", x.likelyAt(1), 0);
         due.same("20: 2", x.likelyAt(2), NO_SUCH);
         due.same("20: -1", x.likelyAt(-1), NO_SUCH);
         due.same("20: MIN", x.likelyAt(MIN), NO_SUCH);
-        due.same("20: silent coins tell no letter", heavy().likelyAt(2), 0);
+        due.same("20: silent coins tell no letter", Examples.heavy().likelyAt(2), 0);
         due.same("20: empty", new CoinRows().likelyAt(0), NO_SUCH);
-        due.same("20: none", Due.loaded(DEAD).likelyAt(1), NOT_POSSIBLE);
-        due.same("20: none at no place", Due.loaded(DEAD).likelyAt(2), NO_SUCH);
+        due.same("20: none", Due.loaded(Examples.DEAD).likelyAt(1), NOT_POSSIBLE);
+        due.same("20: none at no place", Due.loaded(Examples.DEAD).likelyAt(2), NO_SUCH);
         due.same("20: the lowest of several", Due.loaded("@00;@11;@21;@31;1=a1;2=a2;3=a2;!a").likelyAt(0), 2);
         // the likeliest way begins with 0, but more ways together begin with 1
         x = Due.loaded("0=a3;0=b1;@11;1=a1;1>11;1>21;1=b2;2=b2", "!ab");
@@ -613,7 +591,7 @@ public final class PromisesTest {
     }
 
     private void expected() {
-        CoinRows x = Due.loaded(PAIR);
+        CoinRows x = Due.loaded(Examples.PAIR);
         expect("21:", x, new int[] {BEGIN, 0, 0}, 2, 23);
         expect("21:", x, new int[] {BEGIN, 1, 0}, 21, 23);
         expect("21:", x, new int[] {BEGIN, 5, 0}, 0, 1);
@@ -634,7 +612,7 @@ public final class PromisesTest {
         due.same("21: kind -1", x.expected(-1, 9, 9, 0), BAD_VALUE);
         due.same("21: part -1", x.expected(0, 0, 0, -1), BAD_VALUE);
         due.same("21: extreme", x.expected(MAX, MIN, MIN, MAX), BAD_VALUE);
-        x = Due.loaded(SILENT);
+        x = Due.loaded(Examples.SILENT);
         expect("21: silent", x, new int[] {STEP, 4, 5}, 4, 5);
         expect("21: silent", x, new int[] {STEP, 0, 4}, 14, 15);
         expect("21: silent", x, new int[] {BEGIN, 5, 0}, 2, 3);
@@ -644,23 +622,23 @@ public final class PromisesTest {
         expect("21: empty", new CoinRows(), new int[] {BEGIN, 0, 0}, 0, 1);
         expect("21: empty", new CoinRows(), new int[] {STEP, 0, 0}, 0, 1);
         expect("21: empty", new CoinRows(), new int[] {LETTER, 0, 0}, 0, 1);
-        x = Due.loaded(DEAD);
+        x = Due.loaded(Examples.DEAD);
         due.same("21: none", x.expected(0, 0, 0, 0), NOT_POSSIBLE);
         due.same("21: none of no coin", x.expected(0, 6, 0, 0), NO_SUCH);
         due.same("21: none by a bad part", x.expected(0, 0, 0, 3), BAD_VALUE);
     }
 
     private void shareBits() {
-        due.same("22: pair", Due.loaded(PAIR).shareBits(), Float.floatToIntBits((float) (36.0 / 46.0)));
-        due.same("22: silent", Due.loaded(SILENT).shareBits(), Float.floatToIntBits((float) (24.0 / 45.0)));
+        due.same("22: pair", Due.loaded(Examples.PAIR).shareBits(), Float.floatToIntBits((float) (36.0 / 46.0)));
+        due.same("22: silent", Due.loaded(Examples.SILENT).shareBits(), Float.floatToIntBits((float) (24.0 / 45.0)));
         due.same("22: one way", Due.loaded("!abc").shareBits(), Float.floatToIntBits(1));
         due.same("22: empty", new CoinRows().shareBits(), Float.floatToIntBits(1));
-        due.same("22: none", Due.loaded(DEAD).shareBits(), NOT_POSSIBLE);
+        due.same("22: none", Due.loaded(Examples.DEAD).shareBits(), NOT_POSSIBLE);
         due.same("22: a half", Due.loaded("@11;1=a1;!a").shareBits(), Float.floatToIntBits(0.5f));
     }
 
     private void next() {
-        CoinRows x = Due.loaded(PAIR);
+        CoinRows x = Due.loaded(Examples.PAIR);
         due.same("23: letter", x.next(0), 0);
         due.same("23: total", x.next(1), 314);
         due.same("23: what 2", x.next(2), BAD_VALUE);
@@ -673,9 +651,9 @@ public final class PromisesTest {
         due.same("23: its total", Due.loaded("@03;0=c2;0=d2").next(1), 6);
         due.same("23: silent", Due.loaded("@00;@41;4>52;5>03").next(1), 6);
         due.same("23: silent behind a letter", Due.loaded("0>00;0>42;4>53;5>01;!a").next(1), 6);
-        due.same("23: none", Due.loaded(DEAD).next(0), NONE);
-        due.same("23: none by its total", Due.loaded(DEAD).next(1), NONE);
-        due.same("23: none, bad", Due.loaded(DEAD).next(2), BAD_VALUE);
+        due.same("23: none", Due.loaded(Examples.DEAD).next(0), NONE);
+        due.same("23: none by its total", Due.loaded(Examples.DEAD).next(1), NONE);
+        due.same("23: none, bad", Due.loaded(Examples.DEAD).next(2), BAD_VALUE);
         due.same("23: no step on", Due.loaded("0>00;!a").next(0), NONE);
         x = Due.loaded("!abcdab");
         due.same("23: six letters", x.next(0), NOT_POSSIBLE);
@@ -685,8 +663,8 @@ public final class PromisesTest {
     }
 
     private void slip() {
-        due.same("24: none", Due.loaded(PAIR).slip(0), NONE);
-        CoinRows x = Due.loaded(PAIR[0], "!ba");
+        due.same("24: none", Due.loaded(Examples.PAIR).slip(0), NONE);
+        CoinRows x = Due.loaded(Examples.PAIR[0], "!ba");
         due.same("24: place", x.slip(0), 0);
         due.same("24: letter", x.slip(1), 0);
         due.same("24: total", x.slip(2), 43);
@@ -710,7 +688,7 @@ public final class PromisesTest {
     }
 
     private void count() {
-        CoinRows x = Due.loaded(SILENT);
+        CoinRows x = Due.loaded(Examples.SILENT);
         due.same("25: length", x.count(0), 2);
         due.same("25: weights", x.count(1), 11);
         due.same("25: pad", x.count(2), 0);
@@ -726,8 +704,8 @@ public final class PromisesTest {
         x.give(STEP, 0, 1, 3);
         due.same("25: a weight more", x.count(1), 11);
         due.same("25: four changes", x.count(3), 4);
-        due.same("25: all", heavy().count(1), 6 + 33 + 16);
-        due.same("25: six changes", heavy().count(3), 6);
+        due.same("25: all", Examples.heavy().count(1), 6 + 33 + 16);
+        due.same("25: six changes", Examples.heavy().count(3), 6);
     }
 
     private void undo() {
@@ -798,7 +776,7 @@ public final class PromisesTest {
     }
 
     private void save() {
-        CoinRows x = Due.loaded(PAIR);
+        CoinRows x = Due.loaded(Examples.PAIR);
         for (int slot : new int[] {-1, 2, MIN, MAX}) {
             due.same("27: slot " + slot, x.save(slot), BAD_VALUE);
         }
@@ -818,7 +796,7 @@ public final class PromisesTest {
     }
 
     private void restore() {
-        CoinRows x = Due.loaded(PAIR);
+        CoinRows x = Due.loaded(Examples.PAIR);
         for (int slot : new int[] {-1, 2, MIN, MAX}) {
             due.same("28: slot " + slot, x.restore(slot), BAD_VALUE);
         }
@@ -849,7 +827,7 @@ public final class PromisesTest {
 
     /** All weights 3 and six letters: the greatest numbers that there are. */
     private void greatestNumbers() {
-        CoinRows x = heavy();
+        CoinRows x = Examples.heavy();
         long total = 576L * 576 * 576 * 576 * 576 * 576;
         due.same("12: greatest total", x.total(), total);
         due.same("13: greatest forward", x.forward(5, 3), total / 4);
